@@ -1312,16 +1312,13 @@ public final class MahlerBox {
         /** The greatest number of which the power 2 to the s is not above bound. */
         private int root(int s) {
             int guess = guessRoot(s);
-            while (guess > 0 && powerOf(guess, s).isAbove(bound)) {
-                guess--;
-            }
             while (guess < MOST_ROOT && !powerOf(guess + 1, s).isAbove(bound)) {
                 guess++;
             }
             return guess;
         }
 
-        /** From the highest bits alone; the powers tell how far off it is, one at most. */
+        /** From the highest bits alone, always rounded down: never above the root, and below it by one at most. */
         private int guessRoot(int s) {
             long head = 0;
             int rest = bound.length;
@@ -1382,6 +1379,7 @@ public final class MahlerBox {
 
         /** By n; x at 0; null where DEGREE is above 12. */
         private final Poly[] divisors = new Poly[TOP_CYCLOTOMIC + 1];
+        /** Their values; 0 where there is none. */
         private final long[] marks = new long[TOP_CYCLOTOMIC + 1];
         private final long[] left = new long[ROW];
         private final long[] rest = new long[ROW];
@@ -1431,7 +1429,8 @@ public final class MahlerBox {
             int n = 0;
             // Each step goes on to the next divisor, or takes off from top.
             for (int step = 0; step <= TOP_CYCLOTOMIC + MOST_DEGREE && n <= TOP_CYCLOTOMIC && top > 0; step++) {
-                n += isDividedBy(n) ? 0 : 1;
+                boolean may = marks[n] != 0 && mark % marks[n] == 0;
+                n += may && isDividedBy(n) ? 0 : 1;
             }
         }
 
@@ -1455,7 +1454,7 @@ public final class MahlerBox {
         /** Divides what is left by divisor n, if that goes without rest. */
         private boolean isDividedBy(int n) {
             Poly poly = divisor(n);
-            if (poly == null || poly.degree > top || marks[n] == 0 || mark % marks[n] != 0) {
+            if (poly == null || poly.degree > top || marks[n] == 0) {
                 return false;
             }
             System.arraycopy(left, 0, rest, 0, ROW);

@@ -318,6 +318,10 @@ public final class PromiseTest {
         put(box, 0, "9999x^12-9999");
         put(box, 1, "x+9999");
         due("what goes beyond a long on the way", box.by(0, 1, 2), -4);
+        put(box, 0, "x^12");
+        put(box, 1, "x+8192");
+        due("a rest that is a power of 2 beyond a long", box.by(0, 1, 2), -4);
+        put(box, 0, "9999x^12-9999");
         put(box, 1, "9998x^2+9999x-9997");
         due("not whole", box.by(0, 1, 2), -4);
         put(box, 0, "9999x^2-9998x-1");
@@ -764,6 +768,14 @@ public final class PromiseTest {
         due("39 to the 12", box.value(3, 39), Long.MIN_VALUE);
         due("9,999 times 50 to the 8", box.value(4, 50), 9999L * 39062500000000L);
         due("at -50, of odd DEGREE", box.value(5, -50), -4980468750000000000L);
+        put(box, 6, "16x^12");
+        due("2 to the 64", box.value(6, 32), Long.MIN_VALUE);
+        put(box, 6, "-8x^12");
+        due("-2 to the 63 is a long", box.value(6, 32), Long.MIN_VALUE);
+        put(box, 6, "-8x^12+1");
+        due("-2 to the 63 and 1", box.value(6, 32), Long.MIN_VALUE + 1);
+        put(box, 6, "8x^12-1");
+        due("2 to the 63 on the way", box.value(6, 32), Long.MIN_VALUE);
         due("at 51", box.value(1, 51), Long.MIN_VALUE);
         due("at -51", box.value(1, -51), Long.MIN_VALUE);
         due("place 8", box.value(8, 0), Long.MIN_VALUE);
@@ -785,6 +797,11 @@ public final class PromiseTest {
         due("place 8", box.roots(8, 0), MIN);
         put(box, 0, "x^4");
         due("once", box.roots(0, 0), 1);
+        put(box, 0, "16x^12");
+        due("2 to the 64 is not 0", box.roots(0, 0), 1);
+        put(box, 0, "9999x^3+9999x^2-9999x-9999");
+        due("by great sums", box.roots(0, 0), 2);
+        due("by great sums", box.roots(0, 2), 1);
     }
 
     private static void promise28() {
