@@ -1,7 +1,7 @@
 /**
  * The boundary cases of the document, sentence by sentence: too small, too large, empty, full,
  * wrap-around, refused. Each has a method of its own; what is due was reckoned outside the class,
- * with whole numbers without bound.
+ * with whole numbers without bound, but for checks that hold one call against another.
  */
 public final class BoundaryTest {
     private static final int MIN = Integer.MIN_VALUE;
