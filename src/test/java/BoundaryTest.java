@@ -857,11 +857,13 @@ public final class BoundaryTest {
             beyondByProduct();
             beyondByDegreeOne();
             beyondBySumOnTheWay();
+            beyondByManyProducts();
             notBeyondThoughTwice();
             wholeSumAtItsEdge();
             lowAtItsEdge();
             lowOfNearlyLike();
             highAtItsEdge();
+            highOfPowersOfTwo();
             greatest();
             lowHighArguments();
             enclosedFirst();
@@ -976,6 +978,23 @@ public final class BoundaryTest {
             }
         }
 
+        private static void beyondByManyProducts() {
+            says("II: BEYOND by a sum, though no COEFFICIENT of the LEVEL ahead has more than 30 bits");
+            Box box = with("171x^12-x^11+13x^10-201x^9-41x^8-59x^7+248x^6-24x^5+11x^4-201x^3-14x^2+28x+171",
+                "169x^12+66x^11+295x^10+507x^9+370x^8+662x^7+619x^6+603x^5+425x^4+443x^3+307x^2+50x+169",
+                "170x^12-194x^11+366x^10-642x^9+679x^8-883x^7+896x^6-839x^5+697x^4-592x^3+358x^2-174x+170");
+            long[] most = {884183905L, 1054132281L, -870650257L};
+            int[] power = {8, 4, 7};
+            int[] high = {236279, 236203, 234975};
+            for (int i = 0; i < 3; i++) {
+                due("BEST of " + poly(box, i), box.of(i, 9), 2);
+                due("greatest of LEVEL 2", box.level(i, 2, power[i]), most[i]);
+                due("HIGH by LEVEL 2", box.high(i, 2), high[i]);
+                due("LEVEL 3", box.level(i, 3, 6), NO_LONG);
+                due("HIGH by LEVEL 3", box.high(i, 3), -1);
+            }
+        }
+
         private static void notBeyondThoughTwice() {
             says("II: not BEYOND, where only twice a product is beyond a long");
             Box box = with("-3x^9-3x", "-x^10+x^8-2x^7+1");
@@ -1052,6 +1071,21 @@ public final class BoundaryTest {
             for (int k = 0; k <= 6; k++) {
                 due("of x+1 by LEVEL " + k, box.high(3, k), ofOne[k]);
                 due("of x by LEVEL " + k, box.high(6, k), 1000);
+            }
+        }
+
+        private static void highOfPowersOfTwo() {
+            says("II: HIGH, where all squared together are a multiple of a high power of two");
+            Box box = with("2048", "8192", "2048x+2048", "2048x^4+2048x^2+2048x+2048", "4096-4096x",
+                "8192x^3+8192x^2+8192x+8192", "1024x^3+1024x^2+1024x+1024", "4096x^4+2048x^3+2048x^2+2048x+2048");
+            int[][] high = {{2048000, 2048000, 2048000}, {8192000, 8192000, 8192000}, {2896310, 2435497, 2233360},
+                {4096000, 4096000, 3541737}, {5792619, 4870993, 4466720}, {16384000, 11585238, 11912933},
+                {2048000, 1448155, 1489117}, {5792619, 5016555, 4582210}};
+            for (int i = 0; i < 8; i++) {
+                due("BEST of " + poly(box, i), box.of(i, 9), 2);
+                for (int k = 0; k <= 2; k++) {
+                    due("high of " + poly(box, i) + " by LEVEL " + k, box.high(i, k), high[i][k]);
+                }
             }
         }
 
@@ -1583,6 +1617,7 @@ public final class BoundaryTest {
             boxes();
             order();
             highAtItsEdge();
+            highAlmostAtItsEdge();
             firstThirty();
             byLevels();
             nothingFound();
@@ -1676,6 +1711,17 @@ public final class BoundaryTest {
             }
             due("sums of squares that are squares: 9", box.search(8, 1, 0, 3000), 52);
             due("v below it", box.search(8, 1, 0, 2999) < 52 ? 1 : 0, 1);
+        }
+
+        private static void highAlmostAtItsEdge() {
+            says("II: FOUND: HIGH is v at most, where sums of squares meet v, or miss it by very little");
+            int[][] edges = {{6, 2, 2, 2467, 20}, {8, 1, 6, 1770, 30}, {8, 3, 1, 6118, 1864}, {8, 3, 3, 3598, 1038},
+                {6, 1, 1, 2499, 10}, {6, 2, 0, 4000, 75}, {8, 1, 1, 2499, 30}, {6, 3, 1, 4666, 191}};
+            Box box = new Box();
+            for (int[] e : edges) {
+                due("v " + e[3], box.search(e[0], e[1], e[2], e[3]), e[4]);
+                due("in all", box.count(9), e[4]);
+            }
         }
 
         private static void firstThirty() {

@@ -40,6 +40,7 @@ public final class PromiseTest {
         promise32();
         promise33();
         promise34();
+        exampleOfReadme();
         everyCallWithAnyNumbers();
         System.out.println(checks + " checks of promises, " + wrong + " wrong");
         if (wrong != 0) {
@@ -1014,6 +1015,26 @@ public final class PromiseTest {
         due("core", box.status(), -2);
         box.undo();
         due("undo", box.status(), 0);
+    }
+
+    /** README.md tells these answers. */
+    private static void exampleOfReadme() {
+        promise = 0;
+        MahlerBox box = new MahlerBox();
+        due("feed", box.feed(0x785E322D, 0x782D3100, 0, 0, 0), 20);
+        due("end(7)", box.end(7), 7);
+        due("read(0)", box.read(0), 2);
+        due("high(0, 3)", box.high(0, 3), 1619);
+        due("enclosed(0, 0)", box.enclosed(0, 0), 1600);
+        due("search(10, 1, 6, 1210)", box.search(10, 1, 6, 1210), 2);
+        due("take(1, 2)", box.take(1, 2), 10);
+        due("listing(2)", box.listing(2), 32);
+        due("tape", tape(box), "x^10+x^9-x^7-x^6-x^5-x^4-x^3+x+1");
+        due("compare(2, 0, 6)", box.compare(2, 0, 6), -1);
+        due("undo()", box.undo(), 8);
+        due("times(0, 0, 8)", box.times(0, 0, 8), -2);
+        due("status()", box.status(), -2);
+        due("count(15)", box.count(15), 1);
     }
 
     /** No call may throw, whatever it is given. */
